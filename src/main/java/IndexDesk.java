@@ -610,7 +610,7 @@ public final class IndexDesk {
         }
 
         boolean tests(int c) {
-            return c >= 0 && c < MOST_COLUMNS && isIn(c, tested);
+            return c >= 0 && c < MOST_COLUMNS && (tested & (1 << c)) != 0;
         }
 
         boolean testsAlike(int c) {

@@ -66,6 +66,11 @@ public final class CostsTest {
         Check.due("a range first: 24 * 2 / 6", x.cost(0, 0), 1 + 2 + 8);
         x.test(0, 0, 1, 1);
         Check.due("alike, alike, range: 4, 1, 1", x.cost(0, 0), 1 + 1 + 1);
+        x.test(0, 2, 5, 5);
+        Check.due("all three alike: 4, 1, 1", x.cost(0, 0), 1 + 1 + 1);
+        x.build(0, true);
+        Check.due("all three alike: place 5 has another first value", x.run(0, 2), 1);
+        x.build(0, false);
         x.test(0, 1, 10, 20);
         // 24 / 6 = 4; 4 * 11 / 31 = 2, rounded up; the third is not used.
         Check.due("alike, range", x.cost(0, 0), 1 + 1 + 2);
