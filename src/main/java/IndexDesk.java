@@ -918,7 +918,7 @@ public final class IndexDesk {
                 for (int q = 0; q < questionCount; q++) {
                     Question question = questions.get(q);
                     boolean helps = aid.table == question.table && aid.helps(question);
-                    // An aid that does not help never lowers a cost, and neither does PLAIN's own.
+                    // PLAIN's cost stands in for an aid that does not help, since it lowers nothing.
                     costs[a][q] = helps ? aid.foretold(question) : least[0][q];
                 }
             }
