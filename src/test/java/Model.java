@@ -1,4 +1,5 @@
 import java.util.ArrayList;
+import java.util.Arrays;
 import java.util.HashSet;
 import java.util.List;
 import java.util.Set;
@@ -377,7 +378,7 @@ final class Model {
         if (x == null) return NONE;
         switch (what) {
             case 0: return x.kind;
-            case 1: for (int t = 0; t < 4; t++) if (tables[t] == x.t) return t;
+            case 1: return Arrays.asList(tables).indexOf(x.t);
             case 2: return room(x);
             case 3: return x.built ? 1 : 0;
             case 4: return total(0) - total(1 << a);
