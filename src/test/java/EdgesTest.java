@@ -1,5 +1,5 @@
 /**
- * All promises: each call with every pairing of numbers that lie at, just before and just behind a limit, of a
+ * All promises: each call with every combination of numbers that lie at, just before and just behind a limit, of a
  * desk that is new, one in use and one that is full, held against the Model. A call that throws ends the test.
  */
 public final class EdgesTest {
