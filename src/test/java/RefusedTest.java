@@ -3,7 +3,7 @@ import java.util.List;
 
 /**
  * "A call that is refused (NONE, false) changes nothing.": of two desks made alike one gets the refused call,
- * then everything that can be asked of both is compared.
+ * then answers of every kind of call are compared between both.
  */
 public final class RefusedTest {
     private static final int NONE = Desks.NONE;
@@ -284,7 +284,7 @@ public final class RefusedTest {
         }
     }
 
-    /** All that can be asked; at last rows are recounted and each thing that may come does, so that nothing hides. */
+    /** Answers of every kind of call (of 24 questions the first and the last); at last rows are recounted and each thing that may come does, so that nothing hides. */
     private static String everything(IndexDesk x) {
         StringBuilder told = new StringBuilder();
         for (int what = 0; what < 4; what++) {
