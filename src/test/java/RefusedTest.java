@@ -284,7 +284,10 @@ public final class RefusedTest {
         }
     }
 
-    /** Answers of every kind of call (of 24 questions the first and the last); at last rows are recounted and each thing that may come does, so that nothing hides. */
+    /**
+     * Answers of every kind of call (of 24 questions the first and the last). At last rows are
+     * recounted and each thing that may come does, so that nothing hides.
+     */
     private static String everything(IndexDesk x) {
         StringBuilder told = new StringBuilder();
         for (int what = 0; what < 4; what++) {

@@ -392,6 +392,22 @@ public final class TermsTwoTest {
         Check.due("its own test first", x.cost(q, part), 1 + 1 + 2);
         int wide = x.part(0, 1, NONE, 0, 0, 8);
         Check.due("its own test, not the question's", x.cost(q, wide), 1 + 3 + 5);
+        partByItsOwnColumn();
+    }
+
+    /** What is USED comes behind the PART's own test even if both are of one column. */
+    private static void partByItsOwnColumn() {
+        IndexDesk x = Desks.of(2, new int[] {0}, new int[] {9}, new int[] {9}, new int[] {9}, new int[] {9}, new int[] {9},
+            new int[] {9}, new int[] {9}, new int[] {9}, new int[] {9});
+        int nine = x.part(0, 0, NONE, 0, 9, 9);
+        int low = x.part(0, 0, NONE, 0, 0, 4);
+        int q = Desks.ask(x, 0, 0, 9, 9);
+        Check.due("10 / 2 is 5, and 5 / 2 is 3", x.cost(q, nine), 1 + 1 + 3);
+        Check.due("9 does not lie within 0 to 4", x.cost(q, low), NONE);
+        x.test(q, 0, 0, 4);
+        Check.due("10 * 5 / 10 is 5, and 5 * 5 / 10 is 3", x.cost(q, low), 1 + 1 + 3);
+        x.test(q, 0, 4, 4);
+        Check.due("10 * 5 / 10 is 5, and 5 / 2 is 3", x.cost(q, low), 1 + 1 + 3);
     }
 
     // ---- room and keeping ----
